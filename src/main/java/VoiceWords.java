@@ -33,7 +33,6 @@ public final class VoiceWords {
     private static final int WAY = 3;
     private static final int LANE = 4;
     private static final int COLUMN = 5;
-    private static final int LAST_FRAME = 6;
     private static final int LETTERS = 7;
 
     private static final int NO_WAY = 0;
@@ -147,7 +146,7 @@ public final class VoiceWords {
         if (text.length >= MAX_TEXT) {
             return CAPACITY_EXCEEDED;
         }
-        text.characters[text.length] = (char) character;
+        text.characters[text.length] = character;
         text.length++;
         return text.length;
     }
@@ -254,10 +253,14 @@ public final class VoiceWords {
         if (!asked.isPut) {
             return NONE;
         }
-        if (what == LAST_FRAME) {
-            return scene.goneFrom(asked) - 1;
+        switch (what) {
+            case LANE:
+                return asked.lane;
+            case COLUMN:
+                return asked.column;
+            default:
+                return scene.goneFrom(asked) - 1;
         }
-        return what == LANE ? asked.lane : asked.column;
     }
 
     public int letter(int word, int index) {
@@ -396,7 +399,7 @@ public final class VoiceWords {
 
     /** A word: its letters, its frames, its way out, and its place if it is put. */
     private static final class Word {
-        final char[] letters = new char[MAX_LETTERS];
+        final int[] letters = new int[MAX_LETTERS];
         int length;
         int frame;
         int spoken;
@@ -531,7 +534,7 @@ public final class VoiceWords {
         Word appendWord(int length, int frame, int spoken, int held, int way) {
             Word added = words[wordCount];
             for (int i = 0; i < length; i++) {
-                added.letters[i] = (char) ('a' + i);
+                added.letters[i] = 'a' + i;
             }
             added.length = length;
             added.frame = frame;
@@ -814,7 +817,7 @@ public final class VoiceWords {
         private static final int SEMICOLON = 3;
         private static final int OTHER = 4;
 
-        final char[] characters = new char[MAX_TEXT];
+        final int[] characters = new int[MAX_TEXT];
         int length;
 
         /** The present token: what it is, where it begins, and where it has ended. */
@@ -918,7 +921,7 @@ public final class VoiceWords {
             if (index >= length) {
                 return END;
             }
-            char character = characters[index];
+            int character = characters[index];
             if (character >= 'a' && character <= 'z') {
                 return NAME;
             }

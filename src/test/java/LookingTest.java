@@ -16,6 +16,7 @@ final class LookingTest {
         onScreen(check);
         meeting(check);
         meetingOffScreen(check);
+        meetingOnTheWay(check);
         check.finish();
     }
 
@@ -330,5 +331,45 @@ final class LookingTest {
         check.due("put that stays before it", y.put(0, 0, 21), 2);
         check.due("where(1, 2, 1)", y.where(1, 2, 1), 32);
         check.due("meeting(0, 1)", y.meeting(0, 1), -19);
+    }
+
+    /** Two words: first frame, spoken frames, way, lane, column; and the frame in which they meet. */
+    private static void meetingOnTheWay(Check check) {
+        int[][][] rows = {
+            {{0, 1, 2, 3, 0}, {0, 20, 0, 3, 3}, {1}},
+            {{0, 20, 0, 3, 3}, {0, 1, 2, 3, 0}, {1}},
+            {{0, 1, 2, 3, 0}, {0, 20, 0, 3, 4}, {2}},
+            {{0, 5, 1, 3, 1}, {7, 20, 0, 3, 0}, {7}},
+            {{0, 5, 1, 3, 1}, {8, 20, 0, 3, 0}, {-19}},
+            {{0, 5, 2, 3, 36}, {7, 20, 0, 3, 37}, {7}},
+            {{0, 5, 2, 3, 36}, {8, 20, 0, 3, 37}, {-19}},
+            {{0, 1, 3, 7, 5}, {0, 20, 3, 2, 7}, {5}},
+            {{0, 20, 3, 2, 7}, {0, 1, 3, 7, 5}, {5}},
+            {{0, 1, 4, 0, 5}, {0, 20, 4, 6, 3}, {6}},
+            {{0, 20, 4, 6, 3}, {0, 1, 4, 0, 5}, {6}},
+            {{0, 1, 4, 0, 5}, {0, 1, 3, 6, 5}, {3}},
+            {{0, 1, 4, 0, 5}, {0, 1, 3, 7, 5}, {-19}},
+            {{0, 1, 4, 0, 5}, {0, 1, 2, 4, 0}, {4}},
+            {{0, 1, 2, 4, 0}, {0, 1, 1, 4, 20}, {9}},
+            {{0, 1, 3, 4, 8}, {0, 20, 0, 3, 11}, {-19}},
+            {{0, 1, 0, 4, 8}, {1, 20, 0, 4, 8}, {-19}},
+            {{3, 20, 0, 0, 0}, {9, 20, 0, 0, 2}, {9}}};
+        for (int[][] r : rows) {
+            String of = java.util.Arrays.deepToString(r);
+            VoiceWords x = new VoiceWords();
+            // A shot right behind each first frame parts the words while they are put.
+            for (int k = 0; k < 2; k++) {
+                x.addWord(3, r[k][0], r[k][1], 0, r[k][2]);
+                x.addShot(r[k][0] + 1);
+            }
+            x.put(0, r[0][3], r[0][4]);
+            check.due("put of " + of, x.put(1, r[1][3], r[1][4]), 2);
+            for (int k = 0; k < 2; k++) {
+                x.removeShot(r[k][0] + 1);
+            }
+            check.due("meeting of " + of, x.meeting(0, 1), r[2][0]);
+            check.due("meeting the other way round of " + of, x.meeting(1, 0), r[2][0]);
+            check.due("count(4) of " + of, x.count(4), r[2][0] == -19 ? 0 : 1);
+        }
     }
 }

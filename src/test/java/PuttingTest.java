@@ -179,6 +179,17 @@ final class PuttingTest {
         check.due("word(7, 4)", x.word(7, 4), 3);
         check.due("word(7, 5): beside the others", x.word(7, 5), 1);
         check.due("onScreen(13)", x.onScreen(13), 128);
+        // in each lane the columns 0, 1, 38 and 39 are free, the last ones that are tried
+        VoiceWords y = barredScreen();
+        int[][] places = {{3, 1}, {3, 0}, {3, 38}, {3, 39}, {4, 1}, {4, 0}};
+        for (int k = 0; k < places.length; k++) {
+            y.addWord(1, 0, 60, 0, 0);
+        }
+        check.due("putAll()", y.putAll(), 12);
+        for (int k = 0; k < places.length; k++) {
+            check.due("word(" + (6 + k) + ", 4)", y.word(6 + k, 4), places[k][0]);
+            check.due("word(" + (6 + k) + ", 5)", y.word(6 + k, 5), places[k][1]);
+        }
     }
 
     private static void putAllAnew(Check check) {
@@ -191,6 +202,11 @@ final class PuttingTest {
         check.due("word(0, 4)", x.word(0, 4), 3);
         check.due("word(0, 5)", x.word(0, 5), 18);
         check.due("word(1, 5)", x.word(1, 5), 14);
+        x.setWord(0, 0, 2);
+        x.put(0, 3, 18);
+        check.due("putAll() when the other one comes first", x.putAll(), 2);
+        check.due("word(1, 5)", x.word(1, 5), 18);
+        check.due("word(0, 5)", x.word(0, 5), 14);
         check.due("putAll() without words", new VoiceWords().putAll(), 0);
         VoiceWords y = new VoiceWords();
         y.putAll();

@@ -41,14 +41,16 @@ final class QuestionsTest {
         check.due("pace(2001)", y.pace(2001), 0);
     }
 
-    /** Sums for which double, another order, or 25.0f times each summand would answer otherwise. */
+    /** Sums for which double, anywhere in them, another order, or 25.0f times each summand would answer otherwise. */
     private static void paceInFloat(Check check) {
         int[][][] rows = {
             {{9, 7, 4}, {5, 21, 60}, {54}}, {{7, 9, 9, 2}, {22, 12, 60, 11}, {34}},
             {{11, 9}, {50, 2}, {117}}, {{3, 4, 7}, {9, 60, 5}, {45}},
             {{9, 4, 9}, {5, 25, 25}, {58}}, {{7, 4}, {5, 10}, {45}}, {{8, 6}, {1, 15}, {209}},
             {{9, 9, 10}, {60, 60, 20}, {20}}, {{7, 12, 12}, {35, 20, 3}, {120}},
-            {{11, 6, 5}, {30, 9, 30}, {29}}, {{5, 4, 9}, {2, 40, 15}, {79}}};
+            {{11, 6, 5}, {30, 9, 30}, {29}}, {{5, 4, 9}, {2, 40, 15}, {79}},
+            {{3, 1, 9}, {15, 4, 60}, {15}}, {{4, 7}, {60, 3}, {59}}, {{3, 6, 3}, {4, 40, 10}, {30}},
+            {{7, 2, 7}, {40, 6, 24}, {19}}};
         for (int[][] r : rows) {
             VoiceWords x = new VoiceWords();
             for (int k = 0; k < r[0].length; k++) {

@@ -125,7 +125,9 @@ final class TextTest {
             {"sa", 0}, {"says", 0}, {"sayy a 1 2 3;", 0}, {"cu 1;", 0}, {"left;", 0},
             {"sayabc 1 2 3;", 0}, {"say a 1 2 3 lef;", 12}, {"say a 1 2 3 upp;", 12},
             {"say a 1 2 3 leftright;", 12}, {"say a 1 2 3 none;", 12}, {"say a 1 2 3 say;", 12},
-            {"cut 1;x", 6}, {"cuz 1;", 0},
+            {"cut 1;x", 6}, {"cuz 1;", 0}, {"aay a 1 2 3;", 0}, {"sby a 1 2 3;", 0}, {"but 1;", 0},
+            {"cat 1;", 0}, {"say a 1 2 3 heft;", 12}, {"say a 1 2 3 light;", 12},
+            {"say a 1 2 3 op;", 12}, {"say a 1 2 3 town;", 12}, {"say a 1 2 3 us;", 12},
             // a WORD with more than 12 letters
             {"say abcdefghijklm 1 2 3;", 4}, {"say abcdefghijklm", 4},
             // numbers out of range, or with a 0 ahead

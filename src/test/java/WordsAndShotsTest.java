@@ -82,6 +82,10 @@ final class WordsAndShotsTest {
         check.due("addWord takes the number again", x.addWord(5, 50, 5, 5, 0), 2);
         check.due("word(2, 4): not put", x.word(2, 4), -19);
         check.due("word(1, 0) is untouched", x.word(1, 0), 30);
+        x.put(2, 0, 0);
+        check.due("removeWord(2)", x.removeWord(2), 2);
+        check.due("addWord in place of a put one", x.addWord(5, 50, 5, 5, 0), 2);
+        check.due("word(2, 4): not put", x.word(2, 4), -19);
         check.due("removeWord(2)", x.removeWord(2), 2);
         check.due("removeWord(0)", x.removeWord(0), 1);
         check.due("word(0, 0)", x.word(0, 0), 30);
